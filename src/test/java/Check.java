@@ -1,11 +1,17 @@
 /** Counts what a test asks, and ends it with exit code 1 if an answer was not the one that is due. */
 final class Check {
     private final String name;
+    private String sentence = "";
     private int asked;
     private int wrong;
 
     Check(String name) {
         this.name = name;
+    }
+
+    /** What is asked from now on speaks of that sentence of the document; a fault is told with it. */
+    void about(String nextSentence) {
+        sentence = " [" + nextSentence + "]";
     }
 
     void same(String what, long got, long due) {
@@ -49,7 +55,7 @@ final class Check {
     private void tell(String fault) {
         wrong++;
         if (wrong <= 20) {
-            System.out.println(name + ": " + fault);
+            System.out.println(name + sentence + ": " + fault);
         }
     }
 

@@ -59,23 +59,28 @@ final class Notation {
 
     /** The tree: an element as its digit, {@code +} if its start tag was put in, its things in brackets; data as its letter. */
     static String tree(OmitMarkup x) {
+        int count = x.things();
+        int[] parents = new int[count];
+        String[] heads = new String[count];
+        for (int i = 0; i < count; i++) {
+            parents[i] = x.parent(i);
+            int kind = x.kind(i);
+            char letter = x.letter(i);
+            heads[i] = kind < 10 ? kind + (x.isPutIn(i) ? "+" : "") + "(" : letter == ' ' ? "_" : "" + letter;
+        }
         StringBuilder b = new StringBuilder();
-        for (int i = 0; i < x.things(); i++) {
-            if (x.parent(i) == OmitMarkup.NONE) tree(x, i, b);
+        for (int i = 0; i < count; i++) {
+            if (parents[i] == OmitMarkup.NONE) tree(parents, heads, i, b);
         }
         return b.toString();
     }
 
-    private static void tree(OmitMarkup x, int thing, StringBuilder b) {
-        if (x.kind(thing) == 10) {
-            b.append(x.letter(thing) == ' ' ? '_' : x.letter(thing));
-            return;
+    private static void tree(int[] parents, String[] heads, int thing, StringBuilder b) {
+        b.append(heads[thing]);
+        for (int i = thing + 1; i < parents.length; i++) {
+            if (parents[i] == thing) tree(parents, heads, i, b);
         }
-        b.append(x.kind(thing)).append(x.isPutIn(thing) ? "+" : "").append('(');
-        for (int i = thing + 1; i < x.things(); i++) {
-            if (x.parent(i) == thing) tree(x, i, b);
-        }
-        b.append(')');
+        b.append(heads[thing].endsWith("(") && heads[thing].length() > 1 ? ")" : "");
     }
 
     static String errors(OmitMarkup x) {
