@@ -1,4 +1,5 @@
 import java.io.IOException;
+import java.lang.reflect.Array;
 import java.lang.reflect.Constructor;
 import java.lang.reflect.Field;
 import java.lang.reflect.Method;
@@ -7,7 +8,10 @@ import java.nio.file.Files;
 import java.nio.file.Path;
 import java.util.ArrayList;
 import java.util.Arrays;
+import java.util.Collections;
+import java.util.IdentityHashMap;
 import java.util.List;
+import java.util.Set;
 import java.util.TreeSet;
 
 /** The face of the class, and those rules of LANGUAGE.md that its members and the words of its source can tell. */
@@ -58,6 +62,7 @@ final class LanguageTest {
         theConstants();
         members();
         words();
+        theRoom();
         CHECK.end();
     }
 
@@ -127,6 +132,48 @@ final class LanguageTest {
                 CHECK.same(name + "." + m.getName() + " has at most 7 parameters", m.getParameterCount() <= 7, true);
             }
         }
+    }
+
+    /** Counts an object or array and all that it holds into 0: objects and arrays, 1: fields and elements. */
+    private static void count(Object o, Set<Object> seen, int[] counts) throws IllegalAccessException {
+        if (o == null || !seen.add(o)) return;
+        counts[0]++;
+        if (o.getClass().isArray()) {
+            counts[1] += Array.getLength(o);
+            boolean isOfObjects = !o.getClass().getComponentType().isPrimitive();
+            for (int i = 0; isOfObjects && i < Array.getLength(o); i++) count(Array.get(o, i), seen, counts);
+            return;
+        }
+        for (Field f : o.getClass().getDeclaredFields()) {
+            if (Modifier.isStatic(f.getModifiers())) continue;
+            counts[1]++;
+            f.setAccessible(true);
+            if (!f.getType().isPrimitive()) count(f.get(o), seen, counts);
+        }
+    }
+
+    private static int[] room(OmitMarkup x) throws IllegalAccessException {
+        int[] counts = new int[2];
+        count(x, Collections.newSetFromMap(new IdentityHashMap<>()), counts);
+        return counts;
+    }
+
+    /** An object takes a hundredth of the room at the most, and holds no more behind 512 calls. */
+    private static void theRoom() throws IllegalAccessException {
+        OmitMarkup x = new OmitMarkup();
+        int[] atFirst = room(x);
+        CHECK.same("objects and arrays", atFirst[0] <= 6000, true);
+        CHECK.same("fields and elements", atFirst[1] <= 73000, true);
+        Notation.model(x, 0, "1D*");
+        Notation.model(x, 1, "D*");
+        for (int e = 0; e < 10; e++) x.omit(e, true, true);
+        for (int i = 0; i < 500; i++) {
+            if (i % 9 < 5) x.insert(x.length() / 2, i % 5, '0' * (i % 5 / 4) + i % 2);
+            else if (i % 9 < 8) x.erase(x.length() / 3);
+            else x.normalize();
+        }
+        CHECK.same("objects and arrays behind 512 calls", room(x)[0], atFirst[0]);
+        CHECK.same("fields and elements behind 512 calls", room(x)[1], atFirst[1]);
     }
 
     /** The source without its comments, and with its strings emptied. */
